@@ -5,6 +5,8 @@ final class LocusTest {
     locusOnCircle();
     locusOtherwise();
     locusOfFewPlaces();
+    locusWithGaps();
+    locusWithThreeInLine();
     locusLacking();
     locusOrder();
     truth();
@@ -79,88 +81,43 @@ final class LocusTest {
       sum += 7 * t + (t * t + 1) * 4 % 7;
     }
     locus(x, 8, 4, 7, 3, 0, sum);
-    // The first three places of t * t, the rest on a line with them: (t, 0) is mirrored at x = t.
+    // (0, 1) is mirrored at x = t.
     x.make(8, 2, 7, 0);
     locus(x, 9, 4, 7, 1, 0, 7 * 21 + 7);
   }
 
   private static void locusOfFewPlaces() {
     PrimePlane x = plane();
+    // A point that does not follow is at one place.
     locus(x, 2, 4, 1, 0, 0, 1);
-    x.make(12, 4, 3, 0);
-    x.make(20, 0, 1, 0);
-    x.make(10, 4, 0, 0);
-    x.make(3, 7, 6, 0);
-    // The line through (0, 0) and (t, 0) is y = 0 but for t = 0.
-    locus(x, 8, 4, 1, 0, 1, 7);
-    x.make(20, 4, 0, 0);
-    x.make(3, 3, 9, 0);
-    // The circle around (t, 0) through (0, 0) meets y = 0 at 0 and 2t.
-    locus(x, 10, 4, 1, 0, 1, 0);
-    x.make(4, 3, 9, 0);
-    locus(x, 11, 4, 6, 1, 1, 7 * 21);
-    x.make(3, 5, 6, 0);
-    x.make(7, 12, 4, 0);
-    // Places of the circle of the square 1 at t = 0, 1, 2, 5, 6; lacking at 3 and 4.
-    Due.is("lacking where the line misses the circle", 2, () -> x.locus(12, 4, 2));
-    Due.is("five places", 5, () -> x.locus(12, 4, 0));
-    Due.is("all are on the circle", 2, () -> x.locus(12, 4, 1));
-    x.make(10, 1, 2, 0);
-    x.point(14, 0, 0);
-    x.make(2, 5, 7, 0);
-    Due.is("(t, 0) itself", 1, () -> x.locus(16, 4, 1));
-    x.make(11, 2, 3, 0);
-    x.make(4, 17, 6, 0);
-    x.make(8, 18, 5, 0);
-    Due.is("(2t, 1) is on a line", 1, () -> x.locus(19, 4, 1));
-    twoPlaces();
+    x.make(20, 4, 1, 0);
+    x.make(3, 3, 5, 0);
+    x.make(4, 3, 5, 0);
+    // The circle around (t, 0) through (1, 0) meets y = 0 at 1 and at 2t - 1; it is lacking for t = 1.
+    locus(x, 6, 4, 2, 0, 1, 7);
+    locus(x, 7, 4, 6, 1, 1, 7 * 21);
+    x.make(20, 0, 4, 0);
+    x.make(3, 3, 8, 0);
+    // The circle around (0, 0) through (t, 0) meets it first at 1, 2 or 3.
+    locus(x, 9, 4, 3, 1, 1, 7 * 6);
   }
 
-  private static void twoPlaces() {
+  private static void locusWithGaps() {
     PrimePlane x = plane();
     x.make(20, 0, 1, 0);
     x.make(12, 4, 3, 0);
-    x.make(7, 0, 4, 0);
-    x.make(20, 7, 0, 0);
-    x.make(5, 5, 8, 0);
-    x.make(12, 9, 3, 0);
-    int places = x.locus(9, 4, 0);
-    Due.is("the circles have places in common for some t", places, () -> 7 - x.locus(9, 4, 2));
-    x.make(10, 0, 9, 0);
-    x.make(11, 2, 3, 0);
-    // A point that is at one of two places, or lacking, is in none of the figures.
-    PrimePlane y = plane();
-    y.make(20, 0, 1, 0);
-    y.make(10, 4, 1, 0);
-    y.make(3, 6, 5, 0);
-    y.make(10, 7, 2, 0);
-    Due.is("at one place, lacking at t = 1", 1, () -> y.locus(7, 4, 2));
-    Due.is("one place is no line", 0, () -> y.locus(7, 4, 1));
-    PrimePlane z = plane();
-    z.make(20, 4, 1, 0);
-    z.make(12, 0, 3, 0);
-    z.make(3, 6, 5, 0);
-    z.make(12, 7, 6, 0);
-    z.make(3, 8, 5, 0);
-    Due.is("as the reference tells", z.locus(7, 4, 0), () -> 7 - z.locus(7, 4, 2)
-        - repeats(z, 7, 4));
+    x.make(3, 6, 5, 0);
+    // x = t meets the circle of the square 1 at (0, 1), (1, 0), (2, 2), (5, 2), (6, 0), not for 3 and 4.
+    locus(x, 7, 4, 5, 2, 2, 1 + 7 + 16 + 37 + 42);
   }
 
-  /** How often the point is at a place where it has been for a smaller t. */
-  private static int repeats(PrimePlane x, int point, int on) {
-    boolean[] been = new boolean[49];
-    int n = 0;
-    int home = x.number(on, 0);
-    for (int t = 0; t < 7; t++) {
-      x.move(on, t, 0);
-      if (x.object(point, 5) == 0) {
-        int place = 7 * x.number(point, 0) + x.number(point, 1);
-        n += been[place] ? 1 : 0;
-        been[place] = true;
-      }
-    }
-    x.move(on, home, 0);
-    return n;
+  private static void locusWithThreeInLine() {
+    PrimePlane x = plane();
+    x.make(22, 2, 4, 1);
+    x.make(20, 4, 1, 0);
+    x.make(5, 5, 6, 0);
+    // At (0, 1), (0, 2), (0, 3), which are in line, and then at (1, 0).
+    locus(x, 7, 4, 4, 3, 1, 1 + 2 + 3 + 7);
   }
 
   private static void locusLacking() {

@@ -12,9 +12,11 @@ public final class PrimePlane {
 
   private static final int FREE = 0;
   private static final int ON_A_LINE = 1;
+  private static final int LAST_WAY = 22;
+  private static final int LAST_SORT_OF_CLAIM = 7;
   private static final int ALIKE = 6;
 
-  /** The sorts of the parents for the ways 0 to 22, three to a way. */
+  /** The sorts of the parents for the ways 0 to 22, three to a way; the ways 9 and 14 to 19 are none. */
   private static final int[] PARENTS = {
     NONE, NONE, NONE,
     LINE, NONE, NONE,
@@ -216,7 +218,7 @@ public final class PrimePlane {
 
   public int claim(int sort, int a, int b, int c, int d)
       throws IllegalArgumentException, IndexOutOfBoundsException, IllegalStateException {
-    if (sort < 0 || sort > 7) {
+    if (sort < 0 || sort > LAST_SORT_OF_CLAIM) {
       throw new IllegalArgumentException("sort is not 0 to 7");
     }
     int first = entry(SUBJECTS, 4 * sort);
@@ -338,8 +340,9 @@ public final class PrimePlane {
 
   // ---- what the calls share
 
+  /** A way that has parents, but for the point on a line, which point makes. */
   private static boolean isWayToMake(int way) {
-    return way >= 2 && way <= 8 || way >= 10 && way <= 13 || way >= 20 && way <= 22;
+    return way > ON_A_LINE && way <= LAST_WAY && entry(PARENTS, 3 * way) != NONE;
   }
 
   private static int entry(int[] table, int index) {
