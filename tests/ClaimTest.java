@@ -152,15 +152,16 @@ final class ClaimTest {
   }
 
   private static void claimOrder() {
-    PrimePlane x = plane();
+    PrimePlane y = plane();
     int[] noSorts = {-1, 8, 9, 1073741824, -1073741824, Integer.MIN_VALUE, Integer.MAX_VALUE};
     for (int sort : noSorts) {
-      Due.noArgument("claim(" + sort + ")", x, () -> x.claim(sort, 99, 99, 99, 99));
+      Due.noArgument("claim(" + sort + ")", y, () -> y.claim(sort, 99, 99, 99, 99));
     }
     // Objects that fit, and how many of them are needed.
     int[][] fit = {{0, 4, 0, 0, 2}, {0, 5, 0, 0, 2}, {0, 1, 2, 0, 3}, {4, 4, 0, 0, 2}, {4, 4, 0, 0, 2},
         {0, 1, 2, 3, 4}, {0, 1, 0, 0, 2}, {4, 4, 4, 0, 3}};
     for (int s = 0; s < fit.length; s++) {
+      PrimePlane x = plane();
       int sort = s;
       int[] f = fit[s];
       for (int i = 0; i < 4; i++) {
@@ -185,8 +186,8 @@ final class ClaimTest {
           }
         }
       }
+      Due.is("no claims yet", 0, () -> x.count(2));
     }
-    Due.is("no claims yet", 0, () -> x.count(2));
   }
 
   private static void twentyClaims() {

@@ -44,8 +44,31 @@ final class Due {
     refused(name, x, IllegalStateException.class, call);
   }
 
+  /** A plane of this p with free points at these places: x, y, x, y, .. */
+  static PrimePlane plane(int p, int... places) {
+    PrimePlane x = new PrimePlane();
+    x.begin(p);
+    for (int i = 0; i + 1 < places.length; i += 2) {
+      x.point(-1, places[i], places[i + 1]);
+    }
+    return x;
+  }
+
+  /** The object is there, with these numbers. */
+  static void at(PrimePlane x, int object, int first, int second, int third) {
+    String name = "object " + object + " number ";
+    is(name + 0, first, () -> x.number(object, 0));
+    is(name + 1, second, () -> x.number(object, 1));
+    is(name + 2, third, () -> x.number(object, 2));
+  }
+
+  static void lacks(PrimePlane x, int object) {
+    is("object " + object + " is lacking", 1, () -> x.object(object, 5));
+    noState("number of lacking object " + object, x, () -> x.number(object, 0));
+  }
+
   /** The call has to throw just this exception, and to leave the plane as it was. */
-  private static void refused(String name, PrimePlane x, Class<?> due, Call call) {
+  static void refused(String name, PrimePlane x, Class<?> due, Call call) {
     asked++;
     long before = x.digest();
     String got;

@@ -9,12 +9,13 @@ import java.util.stream.Collectors;
 
 /** Rules 1 and 5 of the language: the class has the document's face and shows nothing else. */
 final class FaceTest {
+  /** I IndexOutOfBoundsException, A IllegalArgumentException, S IllegalStateException, in the document's order. */
   private static final Set<String> FACE = new TreeSet<>(Set.of(
-      "int begin(int)", "int inverse(int)", "int root(int)", "int count(int)",
-      "int point(int,int,int)", "int make(int,int,int,int)", "int move(int,int,int)", "int object(int,int)",
-      "int number(int,int)", "int places(int)", "int square(int,int)",
-      "int claim(int,int,int,int,int)", "int holds(int)", "int everywhere(int,int,int)",
-      "int locus(int,int,int)", "double truth()", "long digest()"));
+      "int begin(int) A", "int inverse(int) A", "int root(int) A", "int count(int) I",
+      "int point(int,int,int) IAS", "int make(int,int,int,int) AIS", "int move(int,int,int) IAS",
+      "int object(int,int) I", "int number(int,int) IS", "int places(int) I", "int square(int,int) IS",
+      "int claim(int,int,int,int,int) AIS", "int holds(int) I", "int everywhere(int,int,int) IS",
+      "int locus(int,int,int) IS", "double truth() ", "long digest() "));
 
   public static void main(String[] args) {
     Class<?> c = PrimePlane.class;
@@ -39,7 +40,7 @@ final class FaceTest {
     for (Method m : c.getDeclaredMethods()) {
       if (Modifier.isPublic(m.getModifiers())) {
         shown.add(m.getReturnType() + " " + m.getName() + Arrays.stream(m.getParameterTypes())
-            .map(Class::getName).collect(Collectors.joining(",", "(", ")")));
+            .map(Class::getName).collect(Collectors.joining(",", "(", ") ")) + thrown(m));
         names.add(m.getName());
       }
     }
@@ -48,6 +49,15 @@ final class FaceTest {
       check(m + " is public or private", (m.getModifiers() & (Modifier.PUBLIC | Modifier.PRIVATE)) != 0);
       check(m + " bears no public name", Modifier.isPublic(m.getModifiers()) || !names.contains(m.getName()));
     }
+  }
+
+  private static String thrown(Method m) {
+    StringBuilder told = new StringBuilder();
+    for (Class<?> e : m.getExceptionTypes()) {
+      told.append(e == IndexOutOfBoundsException.class ? "I" : e == IllegalArgumentException.class ? "A"
+          : e == IllegalStateException.class ? "S" : e.getName());
+    }
+    return told.toString();
   }
 
   private static void fields(Class<?> c) {

@@ -21,46 +21,28 @@ final class ObjectTest {
     Due.end();
   }
 
-  private static void at(PrimePlane x, int object, int first, int second, int third) {
-    String name = "object " + object + " number ";
-    Due.is(name + 0, first, () -> x.number(object, 0));
-    Due.is(name + 1, second, () -> x.number(object, 1));
-    Due.is(name + 2, third, () -> x.number(object, 2));
-  }
-
-  private static void lacks(PrimePlane x, int object) {
-    Due.is("object " + object + " is lacking", 1, () -> x.object(object, 5));
-    Due.noState("number of lacking object " + object, x, () -> x.number(object, 0));
-  }
-
   /** p = 7 with the points 0 (0, 0), 1 (1, 0), 2 (0, 1), 3 (3, 5). */
   private static PrimePlane four() {
-    PrimePlane x = new PrimePlane();
-    x.begin(7);
-    x.point(-1, 0, 0);
-    x.point(-1, 1, 0);
-    x.point(-1, 0, 1);
-    x.point(-1, 3, 5);
-    return x;
+    return Due.plane(7, 0, 0, 1, 0, 0, 1, 3, 5);
   }
 
   private static void point() {
     PrimePlane x = four();
-    at(x, 3, 3, 5, 0);
+    Due.at(x, 3, 3, 5, 0);
     x.make(10, 0, 1, 0);
     x.make(10, 0, 2, 0);
     x.make(10, 1, 2, 0);
     Due.is("point on y = 0", 7, () -> x.point(4, 4, -99));
-    at(x, 7, 4, 0, 0);
+    Due.at(x, 7, 4, 0, 0);
     Due.is("point on x = 0", 8, () -> x.point(5, 4, Integer.MAX_VALUE));
-    at(x, 8, 0, 4, 0);
+    Due.at(x, 8, 0, 4, 0);
     Due.is("point on x + y = 1", 9, () -> x.point(6, 4, Integer.MIN_VALUE));
-    at(x, 9, 4, 4, 0);
+    Due.at(x, 9, 4, 4, 0);
     x.make(10, 0, 0, 0);
     Due.is("point on a line that is lacking", 11, () -> x.point(10, 6, 0));
-    lacks(x, 11);
+    Due.lacks(x, 11);
     Due.is("a free point at the edge", 12, () -> x.point(-1, 6, 6));
-    at(x, 12, 6, 6, 0);
+    Due.at(x, 12, 6, 6, 0);
   }
 
   private static void pointOrder() {
@@ -86,56 +68,56 @@ final class ObjectTest {
     PrimePlane x = four();
     x.make(10, 0, 3, 0);
     x.make(10, 1, 2, 0);
-    at(x, 4, 1, 5, 0);
-    at(x, 5, 1, 1, 6);
+    Due.at(x, 4, 1, 5, 0);
+    Due.at(x, 5, 1, 1, 6);
     Due.is("the intersection of x + 5y = 0 and x + y = 1", 6, () -> x.make(2, 4, 5, 0));
-    at(x, 6, 3, 5, 0);
+    Due.at(x, 6, 3, 5, 0);
     x.make(11, 0, 5, 0);
     Due.is("of parallel lines", 8, () -> x.make(2, 5, 7, 0));
-    lacks(x, 8);
+    Due.lacks(x, 8);
     Due.is("of one line", 9, () -> x.make(2, 5, 5, 0));
-    lacks(x, 9);
+    Due.lacks(x, 9);
     Due.is("the middle of (1, 0) and (3, 5)", 10, () -> x.make(7, 1, 3, 0));
-    at(x, 10, 2, 6, 0);
+    Due.at(x, 10, 2, 6, 0);
     Due.is("the middle of a point and itself", 11, () -> x.make(7, 3, 3, 0));
-    at(x, 11, 3, 5, 0);
+    Due.at(x, 11, 3, 5, 0);
     Due.is("the mirror of (0, 0) at x + y = 1", 12, () -> x.make(8, 0, 5, 0));
-    at(x, 12, 1, 1, 0);
+    Due.at(x, 12, 1, 1, 0);
     Due.is("the mirror of a point on the line", 13, () -> x.make(8, 3, 5, 0));
-    at(x, 13, 3, 5, 0);
+    Due.at(x, 13, 3, 5, 0);
     Due.is("the mirror of (1, 0) at x + 5y = 0", 14, () -> x.make(8, 1, 4, 0));
     // 1 + 25 = 5 by the remainder of 7, 1 / 5 = 3, and (1, 0) - 2 * 3 * (1, 5) = (2, 5).
-    at(x, 14, 2, 5, 0);
+    Due.at(x, 14, 2, 5, 0);
   }
 
   /** The circle around (0, 0) with the square 1: (0, 1), (0, 6), (1, 0), (2, 2), (2, 5), .. */
   private static void commonPlaces() {
     PrimePlane x = four();
     x.make(20, 0, 1, 0);
-    at(x, 4, 0, 0, 1);
+    Due.at(x, 4, 0, 0, 1);
     x.make(10, 0, 2, 0);
     x.make(3, 5, 4, 0);
     x.make(4, 5, 4, 0);
-    at(x, 6, 0, 1, 0);
-    at(x, 7, 0, 6, 0);
+    Due.at(x, 6, 0, 1, 0);
+    Due.at(x, 7, 0, 6, 0);
     x.make(10, 0, 1, 0);
     x.make(3, 8, 4, 0);
     x.make(4, 8, 4, 0);
-    at(x, 9, 1, 0, 0);
-    at(x, 10, 6, 0, 0);
+    Due.at(x, 9, 1, 0, 0);
+    Due.at(x, 10, 6, 0, 0);
     x.make(12, 1, 8, 0);
     x.make(3, 11, 4, 0);
     x.make(4, 11, 4, 0);
-    at(x, 12, 1, 0, 0);
-    at(x, 13, 1, 0, 0);
+    Due.at(x, 12, 1, 0, 0);
+    Due.at(x, 13, 1, 0, 0);
     x.make(11, 3, 5, 0);
     x.make(3, 14, 4, 0);
     x.make(4, 14, 4, 0);
-    lacks(x, 15);
-    lacks(x, 16);
+    Due.lacks(x, 15);
+    Due.lacks(x, 16);
     x.move(3, 2, 0);
-    at(x, 15, 2, 2, 0);
-    at(x, 16, 2, 5, 0);
+    Due.at(x, 15, 2, 2, 0);
+    Due.at(x, 16, 2, 5, 0);
   }
 
   private static void commonPlacesOfCircles() {
@@ -145,80 +127,80 @@ final class ObjectTest {
     x.make(5, 4, 5, 0);
     x.make(6, 4, 5, 0);
     // x = 1 / 2 = 4, and y * y = 1 - 16 = 6, no square.
-    lacks(x, 6);
-    lacks(x, 7);
+    Due.lacks(x, 6);
+    Due.lacks(x, 7);
     x.point(-1, 4, 0);
     x.make(20, 8, 0, 0);
     x.make(5, 4, 9, 0);
     x.make(6, 4, 9, 0);
     // Around (4, 0) with the square 2: 8x = 1, so x = 1, and y = 0 alone.
-    at(x, 10, 1, 0, 0);
-    at(x, 11, 1, 0, 0);
+    Due.at(x, 10, 1, 0, 0);
+    Due.at(x, 11, 1, 0, 0);
     x.make(20, 2, 0, 0);
     x.make(21, 3, 0, 1);
     x.make(5, 12, 13, 0);
     x.make(6, 12, 13, 0);
     x.make(5, 4, 4, 0);
-    lacks(x, 16);
+    Due.lacks(x, 16);
     x.make(21, 0, 0, 8);
     x.make(5, 4, 17, 0);
-    lacks(x, 18);
+    Due.lacks(x, 18);
     x.move(0, 5, 5);
     x.make(6, 4, 17, 0);
-    lacks(x, 19);
+    Due.lacks(x, 19);
   }
 
   private static void linesMade() {
     PrimePlane x = four();
     Due.is("through (0, 0) and (1, 0)", 4, () -> x.make(10, 0, 1, 0));
-    at(x, 4, 0, 1, 0);
+    Due.at(x, 4, 0, 1, 0);
     Due.is("through (0, 0) and (0, 1)", 5, () -> x.make(10, 0, 2, 0));
-    at(x, 5, 1, 0, 0);
+    Due.at(x, 5, 1, 0, 0);
     Due.is("through (3, 5) and (1, 0)", 6, () -> x.make(10, 3, 1, 0));
     // a = 5, b = -2 = 5, c = -5: divided by 5 it is x + y + 6.
-    at(x, 6, 1, 1, 6);
+    Due.at(x, 6, 1, 1, 6);
     Due.is("through one place", 7, () -> x.make(10, 3, 3, 0));
-    lacks(x, 7);
+    Due.lacks(x, 7);
     Due.is("through (3, 5), parallel to y = 0", 8, () -> x.make(11, 3, 4, 0));
-    at(x, 8, 0, 1, 2);
+    Due.at(x, 8, 0, 1, 2);
     Due.is("parallel to a line through its own point", 9, () -> x.make(11, 1, 6, 0));
-    at(x, 9, 1, 1, 6);
+    Due.at(x, 9, 1, 1, 6);
     Due.is("through (3, 5), perpendicular to y = 0", 10, () -> x.make(12, 3, 4, 0));
-    at(x, 10, 1, 0, 4);
+    Due.at(x, 10, 1, 0, 4);
     Due.is("through (3, 5), perpendicular to x + y = 1", 11, () -> x.make(12, 3, 6, 0));
-    at(x, 11, 1, 6, 2);
+    Due.at(x, 11, 1, 6, 2);
     Due.is("through (3, 5), perpendicular to x = 0", 12, () -> x.make(12, 3, 5, 0));
-    at(x, 12, 0, 1, 2);
+    Due.at(x, 12, 0, 1, 2);
     Due.is("between (0, 0) and (1, 0)", 13, () -> x.make(13, 0, 1, 0));
-    at(x, 13, 1, 0, 3);
+    Due.at(x, 13, 1, 0, 3);
     Due.is("between (1, 0) and (0, 1)", 14, () -> x.make(13, 1, 2, 0));
-    at(x, 14, 1, 6, 0);
+    Due.at(x, 14, 1, 6, 0);
     Due.is("between a point and itself", 15, () -> x.make(13, 1, 1, 0));
-    lacks(x, 15);
+    Due.lacks(x, 15);
     Due.is("parallel to a line that is lacking", 16, () -> x.make(11, 1, 15, 0));
-    lacks(x, 16);
+    Due.lacks(x, 16);
   }
 
   private static void circlesMade() {
     PrimePlane x = four();
     Due.is("around (1, 0) through (3, 5)", 4, () -> x.make(20, 1, 3, 0));
-    at(x, 4, 1, 0, 1);
+    Due.at(x, 4, 1, 0, 1);
     Due.is("around a point through itself", 5, () -> x.make(20, 1, 1, 0));
-    lacks(x, 5);
+    Due.lacks(x, 5);
     Due.is("around (3, 5) with the square of (1, 0) and (0, 1)", 6, () -> x.make(21, 3, 1, 2));
-    at(x, 6, 3, 5, 2);
+    Due.at(x, 6, 3, 5, 2);
     Due.is("around a point with itself and another", 7, () -> x.make(21, 1, 1, 3));
-    at(x, 7, 1, 0, 1);
+    Due.at(x, 7, 1, 0, 1);
     Due.is("with the square 0", 8, () -> x.make(21, 3, 1, 1));
-    lacks(x, 8);
+    Due.lacks(x, 8);
     Due.is("through (0, 0), (1, 0), (0, 1)", 9, () -> x.make(22, 0, 1, 2));
-    at(x, 9, 4, 4, 4);
+    Due.at(x, 9, 4, 4, 4);
     Due.is("through three of x + y = 1", 10, () -> x.make(22, 1, 2, 3));
-    lacks(x, 10);
+    Due.lacks(x, 10);
     Due.is("through two places", 11, () -> x.make(22, 1, 2, 1));
-    lacks(x, 11);
+    Due.lacks(x, 11);
     Due.is("through one place", 12, () -> x.make(22, 1, 1, 1));
-    lacks(x, 12);
+    Due.lacks(x, 12);
   }
 
   /** p = 7 with the points 0 and 1, the line 2 and the circle 3. */
@@ -233,11 +215,11 @@ final class ObjectTest {
   }
 
   private static void makeOrder() {
-    PrimePlane x = oneOfEach();
+    PrimePlane z = oneOfEach();
     int[] noWays = {-1, 0, 1, 9, 14, 15, 19, 23, 1431655765, 1431655766, 1431655767, 715827883,
         Integer.MIN_VALUE, Integer.MAX_VALUE};
     for (int way : noWays) {
-      Due.noArgument("make(" + way + ", 9, 9, 9)", x, () -> x.make(way, 9, 9, 9));
+      Due.noArgument("make(" + way + ", 9, 9, 9)", z, () -> z.make(way, 9, 9, 9));
     }
     int[] ways = {2, 3, 4, 5, 6, 7, 8, 10, 11, 12, 13, 20, 21, 22};
     // The sorts of the parents; 9 for none.
@@ -245,6 +227,7 @@ final class ObjectTest {
         {0, 0, 9}, {0, 1, 9}, {0, 1, 9}, {0, 0, 9}, {0, 0, 9}, {0, 0, 0}, {0, 0, 0}};
     int[] ofSort = {1, 2, 3};
     for (int i = 0; i < ways.length; i++) {
+      PrimePlane x = oneOfEach();
       int way = ways[i];
       int[] need = needs[i];
       int a = ofSort[need[0]];
@@ -291,24 +274,24 @@ final class ObjectTest {
     x.make(10, 5, 2, 0);
     x.make(11, 3, 6, 0);
     Due.is("all are there", 0, () -> x.move(3, 6, 6));
-    at(x, 3, 6, 6, 0);
+    Due.at(x, 3, 6, 6, 0);
     Due.is("the line is gone, and three with it", 4, () -> x.move(1, 0, 0));
-    lacks(x, 4);
-    lacks(x, 5);
-    lacks(x, 6);
-    lacks(x, 7);
+    Due.lacks(x, 4);
+    Due.lacks(x, 5);
+    Due.lacks(x, 6);
+    Due.lacks(x, 7);
     Due.is("a point on a lacking line is moved", 4, () -> x.move(5, 3, 99));
     Due.is("the line comes back as x = 0", 0, () -> x.move(1, 0, 6));
-    at(x, 4, 1, 0, 0);
-    at(x, 5, 0, 3, 0);
-    at(x, 6, 1, 0, 0);
-    at(x, 7, 1, 0, 1);
+    Due.at(x, 4, 1, 0, 0);
+    Due.at(x, 5, 0, 3, 0);
+    Due.at(x, 6, 1, 0, 0);
+    Due.at(x, 7, 1, 0, 1);
     Due.is("along the line to the other point", 2, () -> x.move(5, 1, -1));
-    at(x, 5, 0, 1, 0);
+    Due.at(x, 5, 0, 1, 0);
     Due.is("and away", 0, () -> x.move(5, 6, -1));
     Due.is("all follow", 0, () -> x.move(1, 1, 1));
-    at(x, 4, 1, 6, 0);
-    at(x, 5, 6, 6, 0);
+    Due.at(x, 4, 1, 6, 0);
+    Due.at(x, 5, 6, 6, 0);
   }
 
   private static void moveOrder() {
@@ -357,9 +340,9 @@ final class ObjectTest {
   private static void number() {
     PrimePlane x = oneOfEach();
     x.make(10, 0, 0, 0);
-    at(x, 1, 1, 0, 0);
-    at(x, 2, 0, 1, 0);
-    at(x, 3, 0, 0, 1);
+    Due.at(x, 1, 1, 0, 0);
+    Due.at(x, 2, 0, 1, 0);
+    Due.at(x, 3, 0, 0, 1);
     for (int bad : new int[] {-1, 3, Integer.MIN_VALUE, Integer.MAX_VALUE}) {
       Due.noIndex("number(0, " + bad + ")", x, () -> x.number(0, bad));
       Due.noIndex("number(4, " + bad + ") of a lacking one", x, () -> x.number(4, bad));
@@ -426,7 +409,7 @@ final class ObjectTest {
     Due.noArgument("make(9, ..)", x, () -> x.make(9, 0, 1, 0));
     Due.noIndex("make(7, 0, 40, 0)", x, () -> x.make(7, 0, 40, 0));
     Due.is("40 objects", 40, () -> x.count(1));
-    at(x, 39, 4, 0, 0);
+    Due.at(x, 39, 4, 0, 0);
     x.begin(7);
     Due.is("room again", 0, () -> x.point(-1, 1, 1));
   }
